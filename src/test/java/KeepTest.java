@@ -23,6 +23,7 @@ public final class KeepTest {
             many 0 = 2 | many 1 = 1 | many 2 = 2 | many 3 = 3 | many 4 = 2 | many 5 = 1 | many 6 = 4 | many 7 = 1 | many 8 = 2
             many 9 = 5 | many 10 = 2 | many 11 = 10
             siteOf 0 2 = 1 | siteOf 0 3 = 90 | siteOf 0 4 = 4 | siteOf 0 5 = 0 | siteOf 0 6 = 2 | siteOf 0 7 = 8 | siteOf 0 8 = 2
+            siteOf 0 0 = 5 | siteOf 0 1 = 50 | plugOf 0 0 = 0 | plugOf 1 1 = 5 | plugOf 1 2 = 0 | drive 0 100 1 = 10 | gain 0 1 0 = 5
             siteOf 1 0 = -1 | plugOf 2 0 = -1 | of 3 0 = -1 | set 0 0 = 0 | set 1 4 = 4 | set 10 3 = 3
             plugOf 0 3 = 0 | plugOf 0 5 = 1 | plugOf 1 5 = 0 | plugOf 0 6 = 2 | plugOf 1 6 = 2 | joined 0 = 1 | joined 10 = 1
             tryOf 0 0 = 1 | tryOf 0 1 = 1 | tryOf 1 0 = 0 | tryOf 3 2 = 2 | tryOf 3 3 = 1 | tryOf 4 0 = -3
@@ -49,6 +50,36 @@ public final class KeepTest {
             ticks 1 = 6 | of 1 0 = 6 | of 2 0 = 1 | keep = 1 | leave 1 = 201 | leave 2 = 200 | come 2 0 50 0 = 0 | ticks 4 = 20
             back = 1 | ticks 1 = 6 | of 1 0 = 11 | of 2 0 = 2
             """);
+        keptRing(s);
         s.end("KeepTest");
+    }
+
+    /** With sixty tries kept each new one drives out an old one, which back() brings back. */
+    private static void keptRing(Script s) {
+        RoadPlugs plugs = new RoadPlugs();
+        plugs.site(0, 1);
+        for (int i = 0; i < 5; i++) {
+            plugs.plug(0, 1, 0);
+            plugs.car(10, 1, 1, 0, 0);
+        }
+        for (int i = 0; i < 67; i++) {
+            plugs.tried(i % 5, i % 3, i % 2 == 0);
+            plugs.ticks(1);
+        }
+        plugs.keep();
+        for (int i = 0; i < 40; i++) {
+            plugs.tried(4 - i % 5, 3 + i % 2, i % 2 == 1);
+        }
+        plugs.back();
+        s.due("kept tries", plugs.many(6), 60);
+        for (int k = 0; k < 60; k++) {
+            int i = 7 + k;
+            s.due("plug of try " + k, plugs.tryOf(k, 0), i % 5);
+            s.due("car of try " + k, plugs.tryOf(k, 1), i % 3);
+            s.due("tick of try " + k, plugs.tryOf(k, 2), i);
+            s.due("failure of try " + k, plugs.tryOf(k, 3), i % 2 == 0 ? 1 : 0);
+        }
+        s.due("one more", plugs.tried(0, 4, true), 60);
+        s.due("the oldest then", plugs.tryOf(0, 2), 8);
     }
 }

@@ -29,6 +29,8 @@ public final class RulesTest {
             read 1 = 0
             tape cap12;idle3after4;share even;
             read 1 = 3 | siteOf 1 3 = 12 | siteOf 1 4 = 3 | siteOf 1 5 = 4
+            tape idle 0 after 5;cap 0;
+            read 1 = 2 | siteOf 1 3 = 0 | siteOf 1 4 = 0 | siteOf 1 5 = 5
             """);
         faults(s);
         s.run("11 read, the tape is used up by a refusal", """
@@ -55,6 +57,7 @@ public final class RulesTest {
             "idle 5 after 101;", "idle 5 after 10", "idle 5 5", "cap -1;", "cap\t1;", "CAP 1;", "caP 1;", "5;", "cap 5;5",
             "cap 5;even", "cap 5; ; ", "cap 5,", "share even first;", "idle 5after1;cap 4;x", "after 5;", "cap 5\u00e9",
             "\u00e9", "cap 5;\0", "cap 12a;", "share first;cap 5;idle 5 after 5;z",
+            "idle 0 after 0;idle 5 after 5;", "cap 0;cap 0;", "capz 5;", "acap 5;", "share evenz;", "cap `5;", "cap {5;", "cap /5;", "cap :5;",
         };
         int[] faults = {
             0, 0, 0, 5, 6, 10, 11, 6, 6, 11,
@@ -64,6 +67,7 @@ public final class RulesTest {
             13, 15, 7, 4, 3, 0, 0, 0, 6,
             6, 7, 5, 11, 19, 0, 5,
             0, 6, 6, 33,
+            15, 6, 0, 0, 6, 4, 4, 4, 4,
         };
         s.due("faults are as many as texts", faults.length, texts.length);
         for (int i = 0; i < texts.length; i++) {

@@ -128,6 +128,18 @@ public final class TicksTest {
             ticks 1 = 1 | ticks 1 = 0 | of 0 5 = 1 | come 1 0 50 0 = 0 | ticks 1 = 0 | of 0 1 = 0 | of 0 5 = 1 | of 1 1 = 100
             of 1 4 = 1 | ticks 1 = 5 | of 1 1 = 200
             """);
+        s.run("17 (4) cap: percents of the battery to the edge", """
+            site 0 99 = 0 | plug 0 1 0 = 0 | car 200 1 50 0 196 = 0 | car 50 1 5 0 0 = 1
+            come 0 0 199 50 = 0 | come 1 0 50 0 = 1 | ticks 9 = 3 | of 0 0 = 199 | of 0 1 = 200
+            tape cap 99;
+            read 0 = 1 | ticks 1 = 0 | of 0 1 = 0 | of 1 1 = 100 | leave 1 = 100 | go 0 100 = 198 | come 0 0 200 0 = 0 | come 1 0 1 0 = 1
+            ticks 1 = 1 | of 0 1 = 0
+            """);
+        s.run("17 (4) cap: just below", """
+            site 0 99 = 0 | plug 0 1 0 = 0 | car 200 1 50 0 98 = 0 | car 50 1 5 0 0 = 1
+            tape cap 50;
+            read 0 = 1 | come 0 0 200 0 = 0 | come 1 0 50 0 = 1 | ticks 1 = 1 | of 0 0 = 99 | of 0 1 = 200 | ticks 1 = 1 | of 0 1 = 0
+            """);
         s.run("17 (4) at its want below the cap it stays though somebody waits", """
             site 0 99 = 0 | plug 0 5 0 = 0 | car 50 1 5 0 0 = 0 | car 50 1 5 0 0 = 1 | come 0 0 5 3 = 0 | come 1 0 5 0 = 1
             ticks 3 = 5 | of 0 1 = 200 | of 0 5 = 2 | of 1 4 = 3 | ticks 1 = 0 | of 0 1 = 0 | of 0 5 = 3 | of 1 4 = 4
