@@ -68,7 +68,7 @@ public final class KeepTest {
         }
         plugs.keep();
         for (int i = 0; i < 40; i++) {
-            plugs.tried(4 - i % 5, 3 + i % 2, i % 2 == 1);
+            plugs.tried(4 - i % 5, 3 + i % 2, i % 2 == 0);
         }
         plugs.back();
         s.due("kept tries", plugs.many(6), 60);
