@@ -3,6 +3,8 @@ import java.lang.reflect.Field;
 import java.lang.reflect.Method;
 import java.lang.reflect.Modifier;
 import java.util.ArrayList;
+import java.util.Arrays;
+import java.util.Comparator;
 import java.util.List;
 import java.util.Random;
 import java.util.TreeSet;
@@ -74,6 +76,8 @@ public final class FaceTest {
             plugs.come(i, random.nextInt(6), 10, random.nextInt(4));
         }
         Method[] methods = RoadPlugs.class.getDeclaredMethods();
+        // The machine names them in any order; a run is to be the same each time.
+        Arrays.sort(methods, Comparator.comparing(Method::getName));
         for (int i = 0; i < 448; i++) {
             Method method = methods[random.nextInt(methods.length)];
             if (!Modifier.isPublic(method.getModifiers())) {

@@ -1,24 +1,36 @@
-import java.lang.reflect.Method;
+import java.util.HashSet;
+import java.util.List;
+import java.util.Set;
 
 /**
- * Runs scripts of calls, each on a new object. A row is "call arguments = answer"; several rows may stand
- * on one line, with "|" between. "tape TEXT" feeds the text in parts of eight bytes.
+ * Runs scripts of calls (see Row), each on a new object. Of each call that is refused, and of each that only asks,
+ * it also looks whether something has changed (see Twins).
  */
 final class Script {
+    /** An object is used for so many calls at most. */
+    static final int MOST_CALLS = 512;
+    private static final Set<String> CHANGES = Set.of(
+            "site", "plug", "car", "set", "feed", "read", "come", "leave", "go", "fail", "ticks", "says", "tried", "line", "clear",
+            "keep", "back");
+
     private int wrong = 0;
     private int rows = 0;
+    private int runs = 0;
 
     void run(String name, String script) {
+        List<Row> all = Row.rowsOf(script);
         RoadPlugs plugs = new RoadPlugs();
-        for (String line : script.split("\n")) {
-            if (line.strip().startsWith("tape ")) {
-                feedText(plugs, line.strip().substring(5));
-                continue;
-            }
-            for (String row : line.split("\\|")) {
-                if (!row.isBlank()) {
-                    runRow(name, plugs, row.strip());
-                }
+        Set<String> asked = new HashSet<>();
+        runs++;
+        due(name + ": an object has at most 512 calls", all.size() <= MOST_CALLS ? 1 : 0, 1);
+        for (int i = 0; i < all.size(); i++) {
+            Row row = all.get(i);
+            due(name + ": " + row.text(), row.on(plugs), row.due());
+            boolean changes = CHANGES.contains(row.call());
+            // One question of a kind is enough; each refusal counts for itself.
+            if (changes ? row.due() < 0 : asked.add(row.call())) {
+                String difference = Twins.difference(all.subList(0, i), row);
+                due(name + ": " + row.text() + " changed '" + difference + "'", difference.isEmpty() ? 1 : 0, 1);
             }
         }
     }
@@ -32,62 +44,18 @@ final class Script {
     }
 
     void end(String test) {
-        System.out.println(test + ": " + rows + " answers, " + wrong + " of them wrong");
+        System.out.println(test + ": " + runs + " runs, " + rows + " answers, " + wrong + " of them wrong");
         if (wrong != 0 || rows == 0) {
             System.exit(1);
         }
     }
 
-    /** Feeds a text; a bar at its end keeps blanks there and is no part of it. */
     static void feedText(RoadPlugs plugs, String text) {
-        String all = text.endsWith("|") ? text.substring(0, text.length() - 1) : text;
-        for (int from = 0; from < all.length(); from += 8) {
-            int n = Math.min(8, all.length() - from);
-            long eight = 0;
-            for (int i = n - 1; i >= 0; i--) {
-                eight = eight << 8 | all.charAt(from + i) & 255;
-            }
-            if (plugs.feed(eight, n) < 0) {
+        for (int from = 0; from < text.length(); from += 8) {
+            int n = Math.min(8, text.length() - from);
+            if (plugs.feed(Row.eightOf(text, from, n), n) < 0) {
                 throw new IllegalStateException("the tape refuses " + text);
             }
-        }
-    }
-
-    private void runRow(String name, RoadPlugs plugs, String row) {
-        String[] sides = row.split("=");
-        String[] words = sides[0].strip().split(" +");
-        due(name + ": " + row, call(plugs, words), Long.parseLong(sides[1].strip()));
-    }
-
-    private static int call(RoadPlugs plugs, String[] words) {
-        for (Method method : RoadPlugs.class.getDeclaredMethods()) {
-            if (method.getName().equals(words[0]) && method.getParameterCount() == words.length - 1) {
-                return invoke(plugs, method, words);
-            }
-        }
-        throw new IllegalArgumentException("no such call: " + String.join(" ", words));
-    }
-
-    private static int invoke(RoadPlugs plugs, Method method, String[] words) {
-        Class<?>[] types = method.getParameterTypes();
-        Object[] values = new Object[types.length];
-        for (int i = 0; i < types.length; i++) {
-            String word = words[i + 1];
-            if (types[i] == boolean.class) {
-                if (!word.equals("true") && !word.equals("false")) {
-                    throw new IllegalArgumentException(word);
-                }
-                values[i] = word.equals("true");
-            } else if (types[i] == long.class) {
-                values[i] = Long.parseLong(word);
-            } else {
-                values[i] = Integer.parseInt(word);
-            }
-        }
-        try {
-            return (Integer) method.invoke(plugs, values);
-        } catch (ReflectiveOperationException e) {
-            throw new IllegalStateException(String.join(" ", words), e);
         }
     }
 }
