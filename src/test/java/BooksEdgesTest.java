@@ -106,6 +106,10 @@ public final class BooksEdgesTest {
             line true 0 0 0 = 6 | clear = 14 | clear = 0 | many 7 = 0 | many 8 = 0 | joined 0 = 0 | joined 1 = 0 | joined 10 = -1
             line false 5 5 5 = 0 | line true 5 5 5 = 0 | joined 0 = 1 | joined 10 = 0 | joined 11 = -1
             """);
+        s.run("26 nothing of LINES that are gone counts for fewer new ones", """
+            set 1 5 = 0 | line false 1 5 50 = 0 | line false 2 5 50 = 1 | line false 3 5 50 = 2 | line true 2 5 50 = 0 | line true 3 5 50 = 1 | joined 0 = 2 | clear = 5
+            line false 4 5 50 = 0 | line true 4 5 55 = 0 | joined 0 = 1 | joined 1 = 5 | joined 10 = 0
+            """);
         s.run("26 all LINES go, and nothing else", "set 1 5 = 0 | line true 0 0 0 = 0 | ticks 4 = 0 | feed 0 3 = 3 | clear = 1 | set 1 5 = 5 | many 0 = 4 | many 9 = 3");
     }
 

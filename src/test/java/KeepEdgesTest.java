@@ -43,13 +43,48 @@ public final class KeepEdgesTest {
             """);
         s.run("28 who has tried which PLUG since it came", """
             site 0 9 = 0 | plug 0 1 0 = 0 | car 10 1 1 0 0 = 0 | fail 0 true = 1 | come 0 0 9 0 = 0 | ticks 1 = 0 | fail 0 false = 1 | keep = 1 | leave 0 = 100
-            come 0 0 9 0 = 0 | ticks 1 = 1 | back = 1 | ticks 3 = 0 | of 0 1 = 100 | of 0 4 = 4
+            come 0 0 9 0 = 0 | back = 1 | ticks 3 = 0 | of 0 1 = 100 | of 0 4 = 4
+            """);
+        s.run("28 who has not tried which PLUG since it came", """
+            site 0 9 = 0 | plug 0 1 0 = 0 | car 10 1 1 0 0 = 0 | come 0 0 9 0 = 0 | keep = 1 | fail 0 true = 1 | ticks 1 = 0 | back = 1 | ticks 1 = 1 | of 0 1 = 200
+            many 6 = 1 | tryOf 0 3 = 0
+            """);
+        s.run("28 when a CAR came to its PLUG", """
+            site 0 6 = 0 | plug 0 5 0 = 0 | plug 0 5 0 = 1 | car 50 1 5 0 0 = 0 | car 50 1 5 0 0 = 1 | car 50 1 5 0 0 = 2
+            tape share first;
+            read 0 = 1 | come 0 0 50 0 = 0 | come 1 0 50 0 = 1 | ticks 1 = 6 | leave 0 = 200 | come 2 0 50 0 = 0 | ticks 1 = 6 | of 1 0 = 6 | of 2 0 = 1 | keep = 1
+            leave 1 = 201 | come 1 0 50 0 = 0 | ticks 1 = 6 | of 2 0 = 6 | back = 1 | ticks 1 = 6 | of 1 0 = 11 | of 2 0 = 2 | many 6 = 3
+            """);
+        s.run("28 QUEUES, WANT, STAY and all counts", """
+            site 0 9 = 0 | plug 0 2 0 = 0 | car 50 1 2 0 0 = 0 | car 50 1 2 0 0 = 1 | car 50 1 2 0 0 = 2 | come 0 0 3 2 = 0 | come 2 0 9 0 = 1 | come 1 0 8 0 = 2
+            ticks 3 = 3 | of 0 5 = 1 | keep = 1 | leave 2 = 100 | leave 1 = 100 | leave 0 = 200 | come 1 0 20 5 = 0 | come 0 0 30 9 = 1 | come 2 0 40 9 = 2 | ticks 9 = 18
+            siteOf 0 8 = 21 | of 1 3 = 18 | back = 1 | siteOf 0 8 = 3 | siteOf 0 6 = 2 | of 2 7 = 0 | of 1 7 = 1 | of 0 2 = 3 | of 1 2 = 8 | of 2 2 = 9 | of 0 3 = 3 | of 1 3 = 0
+            of 0 4 = 0 | of 1 4 = 3 | of 2 4 = 3 | of 0 5 = 1 | of 0 6 = 30 | of 1 6 = 0 | ticks 1 = 0 | of 0 1 = 0 | of 0 5 = 2 | ticks 1 = 2 | of 2 1 = 200 | of 1 7 = 0
+            """);
+        s.run("28 TRIES that are driven out", "site 0 9 = 0 | plug 0 1 0 = 0 | plug 0 1 0 = 1 | car 10 1 1 0 0 = 0 | car 10 1 1 0 0 = 1 | tried 0 0 true = 1 | tried 0 1 true = 2 | ticks 2 = 0\n"
+                + tries(58, 3) + "keep = 1 | ticks 1 = 0\n" + tries(3, 60) + """
+            tryOf 0 0 = 1 | tryOf 0 1 = 0 | tryOf 59 2 = 3 | plugOf 0 4 = 0 | plugOf 0 6 = 0 | back = 1 | plugOf 0 6 = 2 | plugOf 0 4 = 1
+            tryOf 0 0 = 0 | tryOf 0 1 = 0 | tryOf 0 2 = 0 | tryOf 0 3 = 1 | tryOf 1 0 = 0 | tryOf 1 1 = 1 | tryOf 1 2 = 0 | tryOf 1 3 = 1 | tryOf 2 0 = 1 | tryOf 59 2 = 2
+            tried 0 0 false = 60 | tryOf 59 0 = 0 | tryOf 0 1 = 1
             """);
         s.run("28 LINES of both books", """
-            line false 1 1 1 = 0 | line true 1 1 1 = 0 | line true 2 1 1 = 1 | keep = 1 | clear = 3 | line false 2 1 1 = 0 | joined 0 = 0 | back = 1 | many 7 = 1 | many 8 = 2
-            joined 0 = 1 | joined 10 = 0
+            set 1 3 = 0 | line false 1 5 50 = 0 | line true 1 6 52 = 0 | line true 2 6 50 = 1 | keep = 1 | clear = 3 | line false 2 9 70 = 0 | line true 3 0 0 = 0 | joined 0 = 0
+            back = 1 | many 7 = 1 | many 8 = 2 | joined 0 = 1 | joined 1 = 2 | joined 10 = 0
+            """);
+        s.run("28 LINES: CAR, TICK and units of each", """
+            line false 1 5 50 = 0 | line true 1 5 50 = 0 | keep = 1 | clear = 2 | line true 1 9 50 = 0 | back = 1 | joined 0 = 1 | clear = 2 | line true 1 5 60 = 0 | back = 1
+            joined 0 = 1 | clear = 2 | line true 2 5 50 = 0 | back = 1 | joined 0 = 1 | clear = 2 | line false 1 9 50 = 0 | back = 1 | joined 0 = 1
             """);
         s.run("28 NOW at its end, and back from it", "keep = 1 | " + "ticks 100 = 0 | ".repeat(20) + "ticks 1 = -4 | back = 1 | many 0 = 0 | ticks 1 = 0 | many 0 = 1");
         s.end("KeepEdgesTest");
+    }
+
+    /** Rows of tries of plug 1 by car 0 that went well; the first of them is the number-th that is kept. */
+    private static String tries(int times, int number) {
+        StringBuilder rows = new StringBuilder();
+        for (int i = 0; i < times; i++) {
+            rows.append("tried 1 0 false = ").append(Math.min(60, number + i)).append(" | ");
+        }
+        return rows.append('\n').toString();
     }
 }

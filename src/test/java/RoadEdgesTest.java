@@ -8,6 +8,7 @@ public final class RoadEdgesTest {
         cars(s);
         sets(s);
         drives(s);
+        drivesOfAllWays(s);
         gains(s);
         gainsForAllCharges(s);
         ofs(s);
@@ -173,6 +174,27 @@ public final class RoadEdgesTest {
             drive 0 66 1 = 1 | drive 0 67 1 = 2 | drive 0 0 1 = 0 | drive 1 999 1 = 600 | drive 1 5 1 = 3 | drive 1 6 1 = 4 | drive 1 999 0 = 125
             """);
         s.run("6 what driving takes does not ask for CHARGE, nor take it", "car 10 40 1 0 0 = 0 | drive 0 999 1 = 400 | of 0 0 = 0");
+    }
+
+    /** The sentence of driving once more, for all ways: what it takes is enough, and one less is not. */
+    private static void drivesOfAllWays(Script s) {
+        for (int use : new int[] {1, 7, 33, 39, 40}) {
+            for (int cold : new int[] {0, 1, 17, 49, 50}) {
+                for (int from = 0; from <= 999; from += 250) {
+                    RoadPlugs plugs = new RoadPlugs();
+                    plugs.car(10, use, 1, 0, 0);
+                    plugs.set(0, cold);
+                    for (int n = from; n < from + 250; n++) {
+                        String way = "drive of " + n + " with use " + use + " and cold " + cold;
+                        long exact = (long) n * use * (100 + cold);
+                        long charge = plugs.drive(0, n, 1);
+                        s.due(way + " is enough", charge * 10000 >= exact ? 1 : 0, 1);
+                        s.due(way + " is the least", (charge - 1) * 10000 < exact ? 1 : 0, 1);
+                        s.due(way + " takes ticks", plugs.drive(0, n, 0), n / 8 + (n % 8 > 0 ? 1 : 0));
+                    }
+                }
+            }
+        }
     }
 
     private static void gains(Script s) {

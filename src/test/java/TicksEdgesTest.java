@@ -207,6 +207,10 @@ public final class TicksEdgesTest {
             fail 0 true = 1 | fail 1 true = 1 | fail 2 true = 1 | come 0 0 9 0 = 0 | come 1 0 9 0 = 1 | come 2 0 9 0 = 2 | come 3 0 9 0 = 3 | ticks 1 = 0
             of 2 7 = 0 | of 1 7 = 1 | of 0 7 = 2 | of 3 7 = 3 | many 6 = 3 | many 4 = 4 | many 5 = 0
             """);
+        s.run("3 (2) back to the QUEUE of its own SITE, the last one", """
+            site 0 9 = 0 | site 1 9 = 1 | site 2 9 = 2 | site 3 9 = 3 | site 4 9 = 4 | site 5 9 = 5 | plug 5 1 0 = 0 | car 10 1 1 0 0 = 0 | fail 0 true = 1
+            come 0 5 9 0 = 0 | ticks 1 = 0 | of 0 1 = 105 | of 0 7 = 0 | siteOf 5 6 = 1 | siteOf 0 6 = 0 | leave 0 = 105 | siteOf 5 6 = 0
+            """);
         s.run("3 (2) with all CARS in one QUEUE", """
             site 0 9 = 0 | plug 0 1 0 = 0 | plug 0 1 0 = 1 | car 10 1 1 0 0 = 0 | car 10 1 1 0 0 = 1 | car 10 1 1 0 0 = 2 | car 10 1 1 0 0 = 3 | car 10 1 1 0 0 = 4
             car 10 1 1 0 0 = 5 | car 10 1 1 0 0 = 6 | car 10 1 1 0 0 = 7 | car 10 1 1 0 0 = 8 | car 10 1 1 0 0 = 9 | car 10 1 1 0 0 = 10 | car 10 1 1 0 0 = 11
@@ -257,6 +261,14 @@ public final class TicksEdgesTest {
             site 0 6 = 0 | plug 0 5 0 = 0 | plug 0 5 0 = 1 | plug 0 5 0 = 2 | car 50 1 5 0 9 = 0 | car 50 1 5 0 0 = 1 | car 50 1 5 0 0 = 2
             fail 2 true = 1 | come 0 0 9 50 = 0 | come 1 0 50 0 = 1 | come 2 0 50 0 = 2 | ticks 1 = 5 | of 1 0 = 5 | of 0 0 = 9
             """);
+        s.run("3 even: of those that ask: one at its WANT does not count for the parts of the others", """
+            site 0 3 = 0 | plug 0 5 0 = 0 | plug 0 5 0 = 1 | plug 0 5 0 = 2 | car 50 1 5 0 9 = 0 | car 50 1 5 0 0 = 1 | car 50 1 5 0 0 = 2
+            come 0 0 9 50 = 0 | come 1 0 50 0 = 1 | come 2 0 50 0 = 2 | ticks 1 = 3 | of 0 0 = 9 | of 1 0 = 1 | of 2 0 = 2
+            """);
+        s.run("3 even: one that asks for a single unit is served in its turn", """
+            site 0 4 = 0 | plug 0 9 0 = 0 | plug 0 9 0 = 1 | plug 0 1 0 = 2 | car 50 1 9 0 0 = 0 | car 50 1 9 0 0 = 1 | car 50 1 9 0 0 = 2
+            come 0 0 50 0 = 0 | come 1 0 50 0 = 1 | come 2 0 50 0 = 2 | ticks 1 = 4 | of 0 0 = 2 | of 1 0 = 1 | of 2 0 = 1
+            """);
         s.run("3 even: a car that gets nothing is still at its PLUG", """
             site 0 1 = 0 | plug 0 5 0 = 0 | plug 0 5 0 = 1 | car 50 1 5 0 0 = 0 | car 50 1 5 0 0 = 1 | come 0 0 50 0 = 0 | come 1 0 50 0 = 1
             ticks 3 = 3 | of 0 0 = 0 | of 0 1 = 200 | of 1 0 = 3 | of 0 5 = 0 | of 0 6 = 0
@@ -274,6 +286,15 @@ public final class TicksEdgesTest {
             """);
         s.run("3 first: POWER goes to the last unit", "site 0 10 = 0\n" + three + """
             come 0 0 50 0 = 0 | come 1 0 50 0 = 1 | come 2 0 50 0 = 2 | ticks 1 = 10 | of 0 0 = 5 | of 1 0 = 5 | of 2 0 = 0
+            """);
+        s.run("3 first: the last unit of POWER goes to the next", "site 0 6 = 0\n" + three + """
+            come 0 0 50 0 = 0 | come 1 0 50 0 = 1 | come 2 0 50 0 = 2 | ticks 1 = 6 | of 0 0 = 5 | of 1 0 = 1 | of 2 0 = 0
+            """);
+        s.run("3 first: one that asks for a single unit", "site 0 6 = 0\n" + three + """
+            come 0 0 1 0 = 0 | come 1 0 50 0 = 1 | come 2 0 50 0 = 2 | ticks 1 = 6 | of 0 0 = 1 | of 1 0 = 5 | of 2 0 = 0
+            """);
+        s.run("3 first: one at its WANT takes nothing of POWER", "site 0 6 = 0\n" + three + """
+            come 0 0 0 9 = 0 | come 1 0 50 0 = 1 | come 2 0 50 0 = 2 | ticks 1 = 6 | of 0 0 = 0 | of 1 0 = 5 | of 2 0 = 1
             """);
         s.run("3 first: POWER is more than what is asked", "site 0 16 = 0\n" + three + """
             come 0 0 50 0 = 0 | come 1 0 50 0 = 1 | come 2 0 50 0 = 2 | ticks 1 = 15 | of 0 0 = 5 | of 1 0 = 5 | of 2 0 = 5
@@ -331,6 +352,10 @@ public final class TicksEdgesTest {
         s.run("3 (4) cap 100: one unit below full it stays", """
             site 0 99 = 0 | plug 0 1 0 = 0 | car 10 1 1 0 9 = 0 | car 10 1 1 0 0 = 1 | come 0 0 9 50 = 0 | come 1 0 10 0 = 1 | ticks 49 = 0 | of 0 1 = 200
             of 0 5 = 49 | ticks 1 = 0 | of 0 1 = 0 | of 0 5 = 50
+            """);
+        s.run("3 (4) cap 100: 199 of 200 is below", """
+            site 0 99 = 0 | plug 0 1 0 = 0 | car 200 1 1 0 198 = 0 | car 10 1 1 0 0 = 1 | come 0 0 200 50 = 0 | come 1 0 10 0 = 1 | ticks 1 = 1 | of 0 0 = 199
+            of 0 1 = 200 | ticks 1 = 1 | of 0 0 = 200 | of 0 1 = 0
             """);
         s.run("3 (4) at its WANT and below cap: it is IDLE though somebody waits", two + """
             tape cap 50;
