@@ -71,6 +71,8 @@ final class Twins {
         each(looks, "joined 1%2$d", 1, plugs.many(7));
         each(looks, "trip %d 0 400 %d", cars, 3);
         each(looks, "gain %d %d 0", cars, Math.min(plugCount, 3));
+        each(looks, "gain %d %d 45", cars, Math.min(plugCount, 1));
+        each(looks, "gain %d %d 199", cars, Math.min(plugCount, 1));
         each(looks, "drive %d 99%d 1", cars, 1);
         each(looks, "advice " + cars + " 0 %2$d", 1, 2);
         each(looks, "advice " + cars + " 0 3%2$d", 1, Math.min(cars, 10));
