@@ -55,6 +55,10 @@ public final class KeepEdgesTest {
             read 0 = 1 | come 0 0 50 0 = 0 | come 1 0 50 0 = 1 | ticks 1 = 6 | leave 0 = 200 | come 2 0 50 0 = 0 | ticks 1 = 6 | of 1 0 = 6 | of 2 0 = 1 | keep = 1
             leave 1 = 201 | come 1 0 50 0 = 0 | ticks 1 = 6 | of 2 0 = 6 | back = 1 | ticks 1 = 6 | of 1 0 = 11 | of 2 0 = 2 | many 6 = 3
             """);
+        s.run("28 how many are in a QUEUE: more behind keep, and fewer", """
+            site 0 9 = 0 | car 50 1 2 0 0 = 0 | car 50 1 2 0 0 = 1 | come 1 0 9 0 = 0 | keep = 1 | come 0 0 9 0 = 1 | siteOf 0 6 = 2 | back = 1 | siteOf 0 6 = 1 | many 4 = 1
+            of 0 1 = 0 | of 1 7 = 0 | leave 1 = 100 | siteOf 0 6 = 0 | back = 1 | siteOf 0 6 = 1 | of 1 7 = 0 | come 0 0 9 0 = 1
+            """);
         s.run("28 QUEUES, WANT, STAY and all counts", """
             site 0 9 = 0 | plug 0 2 0 = 0 | car 50 1 2 0 0 = 0 | car 50 1 2 0 0 = 1 | car 50 1 2 0 0 = 2 | come 0 0 3 2 = 0 | come 2 0 9 0 = 1 | come 1 0 8 0 = 2
             ticks 3 = 3 | of 0 5 = 1 | keep = 1 | leave 2 = 100 | leave 1 = 100 | leave 0 = 200 | come 1 0 20 5 = 0 | come 0 0 30 9 = 1 | come 2 0 40 9 = 2 | ticks 9 = 18
