@@ -1138,6 +1138,7 @@ public final class RoadPlugs {
                 Site site = w.sites[s];
                 fillFreePlugs(w, site);
                 turnBackFromFailing(w, site);
+                noteTriesThatWentWell(w, site);
                 int askers = askAll(w, site);
                 if (site.sharesFirst) {
                     shareByComing(w, site);
@@ -1191,6 +1192,16 @@ public final class RoadPlugs {
             }
         }
 
+        private static void noteTriesThatWentWell(World w, Site site) {
+            for (int i = 0; i < site.plugCount; i++) {
+                int p = site.plugs[i];
+                int c = w.plugs[p].car;
+                if (c != NOBODY && w.cars[c].pluggedAt == w.now) {
+                    w.tries.addTry(p, c, w.now, false);
+                }
+            }
+        }
+
         /** Notes what each car at a plug asks for (0: it is at its want): how many ask. */
         private int askAll(World w, Site site) {
             int askers = 0;
@@ -1199,15 +1210,10 @@ public final class RoadPlugs {
                 int c = w.plugs[p].car;
                 asked[p] = 0;
                 served[p] = 0;
-                if (c != NOBODY) {
+                if (c != NOBODY && w.cars[c].charge < w.cars[c].want) {
                     Car car = w.cars[c];
-                    if (car.pluggedAt == w.now) {
-                        w.tries.addTry(p, c, w.now, false);
-                    }
-                    if (car.charge < car.want) {
-                        asked[p] = Math.min(w.gainOf(car, w.plugs[p].most, car.charge), car.want - car.charge);
-                        askers++;
-                    }
+                    asked[p] = Math.min(w.gainOf(car, w.plugs[p].most, car.charge), car.want - car.charge);
+                    askers++;
                 }
             }
             return askers;
@@ -1288,18 +1294,22 @@ public final class RoadPlugs {
                 int p = site.plugs[i];
                 int c = w.plugs[p].car;
                 if (c != NOBODY) {
-                    Car car = w.cars[c];
-                    boolean atCap = 100 * car.charge >= site.cap * car.battery;
-                    if (atCap && w.isAwaited(site, car.cable)) {
-                        w.sendAway(c);
-                    } else if (car.charge >= car.want) {
-                        if (asked[p] == 0) {
-                            idleOneTick(site, car);
-                        }
-                        if (car.idle >= car.stay) {
-                            w.sendAway(c);
-                        }
-                    }
+                    leaveOrIdle(w, site, c, asked[p] == 0);
+                }
+            }
+        }
+
+        private static void leaveOrIdle(World w, Site site, int c, boolean wasAtWant) {
+            Car car = w.cars[c];
+            boolean atCap = 100 * car.charge >= site.cap * car.battery;
+            if (atCap && w.isAwaited(site, car.cable)) {
+                w.sendAway(c);
+            } else if (car.charge >= car.want) {
+                if (wasAtWant) {
+                    idleOneTick(site, car);
+                }
+                if (car.idle >= car.stay) {
+                    w.sendAway(c);
                 }
             }
         }
